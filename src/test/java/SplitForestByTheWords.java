@@ -1,11 +1,14 @@
+import java.util.ArrayDeque;
 import java.util.ArrayList;
+import java.util.Arrays;
 import java.util.List;
 import java.util.Random;
 import java.util.TreeSet;
 
 /**
  * Compares every answer with that of a slow model that follows the document's words, on all graphs
- * of up to five vertices and on graphs of six to nine that are made by rules and from fixed seeds.
+ * of up to five vertices, on graphs of six to nine that are made by rules and from fixed seeds, and
+ * in runs of calls that use an object up.
  */
 public final class SplitForestByTheWords {
     private static final int CALLS_OF_ONE_OBJECT = 512;
@@ -18,7 +21,7 @@ public final class SplitForestByTheWords {
         randomGraphs();
         graphsThatCanBeTakenAway();
         circlesWithChords();
-        walksOfFlips();
+        runsOfCalls();
         for (int kind = SplitForest.HOLE; kind <= SplitForest.DOMINO; kind++) {
             due("obstacles of kind " + kind + " were seen", obstaclesSeen[kind] > 0 ? 1 : 0, 1);
         }
@@ -120,34 +123,159 @@ public final class SplitForestByTheWords {
         }
     }
 
-    /** One object in many states, asked in changing order, within its number of calls. */
-    private static void walksOfFlips() {
+    /** Objects that are used up: flips, also back again, between questions of all kinds on any vertex. */
+    private static void runsOfCalls() {
         Random random = new Random(5);
-        for (int round = 0; round < 150; round++) {
-            int n = 4 + round % 6;
-            SplitForest x = new SplitForest(n);
-            boolean[][] edges = new boolean[n][n];
-            for (int calls = 0; calls + 14 <= CALLS_OF_ONE_OBJECT; calls += 14) {
-                int a = random.nextInt(n);
-                int b = (a + 1 + random.nextInt(n - 1)) % n;
-                join(edges, a, b, !edges[a][b]);
-                due("walk: flip", x.flip(a, b), edges[a][b]);
-                compareSome(x, edges, random.nextInt(n), random);
-                compareSome(x, edges, random.nextInt(n), random);
-            }
+        for (int round = 0; round < 180; round++) {
+            int n = round < 18 ? 1 + round % 9 : 5 + round % 5;
+            new Run(n, round % 2 == 0 ? n : n * n, random).useUp();
         }
     }
 
-    private static void compareSome(SplitForest x, boolean[][] edges, int v, Random random) {
-        Words words = new Words(edges, v);
-        int k = random.nextInt(words.nodes.size() + 1);
-        String at = "walk: (" + v + ", " + k + ") ";
-        due(at + "splits", x.splits(v), words.splits.size());
-        due(at + "set", x.set(v, k), k < words.nodes.size() ? words.nodes.get(k) : -1);
-        due(at + "kind", x.kind(v, k), words.kind(k));
-        due(at + "step", x.step(v, k), k < words.steps.size() ? words.steps.get(k) : -1);
-        due(at + "chosen", x.chosen(v), words.chosen());
-        due(at + "obstruction", x.obstruction(v), words.obstruction());
+    /** One object, the graph that it should have, and what the model says of that graph's components. */
+    private static final class Run {
+        private static final int[] NO_VERTEX_OR_NODE = {-1, -2, 9, 10, 31, 32, 33, -32, 64, 1 << 30,
+            Integer.MIN_VALUE, Integer.MAX_VALUE};
+        final Random random;
+        final int n;
+        // Few edges leave several components, many make one that is seldom hereditary.
+        final int mostEdges;
+        final SplitForest x;
+        final boolean[][] edges;
+        final Words[] known;
+        final ArrayDeque<int[]> flips = new ArrayDeque<>();
+        final ArrayDeque<int[]> asked = new ArrayDeque<>();
+
+        Run(int n, int mostEdges, Random random) {
+            this.random = random;
+            this.n = n;
+            this.mostEdges = mostEdges;
+            x = new SplitForest(n);
+            edges = new boolean[n][n];
+            known = new Words[n];
+        }
+
+        void useUp() {
+            for (int call = 0; call < CALLS_OF_ONE_OBJECT; call++) {
+                int flipsOfHundred = call < 4 * n ? 60 : 12;
+                if (random.nextInt(100) < flipsOfHundred) {
+                    flip();
+                } else {
+                    ask();
+                }
+            }
+        }
+
+        private void flip() {
+            boolean back = !flips.isEmpty() && (flips.size() == mostEdges || random.nextInt(4) == 0);
+            int[] pair = back ? flipBefore() : new int[] {vertex(), vertex()};
+            boolean there = false;
+            if (isVertex(pair[0]) && isVertex(pair[1]) && pair[0] != pair[1]) {
+                there = !edges[pair[0]][pair[1]];
+                join(edges, pair[0], pair[1], there);
+                Arrays.fill(known, null);
+                if (!back) {
+                    flips.push(pair);
+                }
+            }
+            due("run: flip(" + pair[0] + ", " + pair[1] + ")", x.flip(pair[0], pair[1]), there);
+        }
+
+        private int[] flipBefore() {
+            return random.nextBoolean() ? flips.pollFirst() : flips.pollLast();
+        }
+
+        /** A question that is new, or one of the last ones once more. */
+        private void ask() {
+            int[] question;
+            if (asked.size() > 12) {
+                question = asked.pollFirst();
+            } else {
+                question = new int[] {random.nextInt(19), vertex(), nodeOrVertex(), random.nextInt(n + 3) - 1};
+            }
+            if (random.nextInt(3) != 0) {
+                asked.addLast(question);
+            }
+            answer(question[0], question[1], question[2], question[3]);
+        }
+
+        private int vertex() {
+            return random.nextInt(25) == 0 ? noVertexOrNode() : random.nextInt(n);
+        }
+
+        private int nodeOrVertex() {
+            return random.nextInt(25) == 0 ? noVertexOrNode() : random.nextInt(n + 1);
+        }
+
+        private int noVertexOrNode() {
+            return NO_VERTEX_OR_NODE[random.nextInt(NO_VERTEX_OR_NODE.length)];
+        }
+
+        private boolean isVertex(int v) {
+            return v >= 0 && v < n;
+        }
+
+        private Words words(int v) {
+            if (known[v] == null) {
+                known[v] = new Words(edges, v);
+            }
+            return known[v];
+        }
+
+        private void answer(int which, int v, int k, int i) {
+            String at = "run: question " + which + " (" + v + ", " + k + ", " + i + ")";
+            if (which == 0) {
+                due(at, x.vertices(), n);
+            } else if (which == 1) {
+                due(at, x.neighbours(v, k), isVertex(v) && isVertex(k) && edges[v][k]);
+            } else if (which == 2) {
+                due(at, x.component(v), isVertex(v) ? words(v).all : 0);
+            } else if (which == 3) {
+                due(at, x.hereditary(v), isVertex(v) && words(v).hereditary);
+            } else if (which == 4 || which == 5) {
+                due(at, x.linked(v, k), isVertex(v) && isVertex(k) && words(v).linked(k));
+            } else {
+                due(at, number(which, v, k, i), isVertex(v) ? numberByTheWords(which, words(v), k, i) : -1);
+            }
+        }
+
+        private int number(int which, int v, int k, int i) {
+            return switch (which) {
+                case 6 -> x.splits(v);
+                case 7 -> x.strong(v);
+                case 8 -> x.set(v, k);
+                case 9 -> x.kind(v, k);
+                case 10 -> x.parts(v, k);
+                case 11 -> x.part(v, k, i);
+                case 12 -> x.centre(v, k);
+                case 13 -> x.step(v, k);
+                case 14 -> x.obstruction(v);
+                case 15 -> x.obstacle(v);
+                case 16 -> x.apart(v);
+                case 17 -> x.chosen(v);
+                default -> x.cover(v);
+            };
+        }
+
+        private int numberByTheWords(int which, Words words, int k, int i) {
+            boolean node = k >= 0 && k < words.nodes.size();
+            List<Integer> parts = node ? words.parts(k) : List.of();
+            return switch (which) {
+                case 6 -> words.splits.size();
+                case 7 -> words.nodes.size() - 1;
+                case 8 -> node ? words.nodes.get(k) : -1;
+                case 9 -> words.kind(k);
+                case 10 -> node ? parts.size() : -1;
+                case 11 -> i >= 0 && i < parts.size() ? parts.get(i) : -1;
+                case 12 -> words.centre(k);
+                case 13 -> k >= 0 && k < words.steps.size() ? words.steps.get(k) : -1;
+                case 14 -> words.obstruction();
+                case 15 -> words.obstacle();
+                case 16 -> words.apart();
+                case 17 -> words.chosen();
+                default -> words.cover();
+            };
+        }
     }
 
     private static int[] shuffled(int n, Random random) {

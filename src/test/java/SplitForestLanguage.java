@@ -6,6 +6,8 @@ import com.sun.source.tree.CompilationUnitTree;
 import com.sun.source.tree.DoWhileLoopTree;
 import com.sun.source.tree.ExpressionTree;
 import com.sun.source.tree.ForLoopTree;
+import com.sun.source.tree.IdentifierTree;
+import com.sun.source.tree.MemberSelectTree;
 import com.sun.source.tree.MethodInvocationTree;
 import com.sun.source.tree.MethodTree;
 import com.sun.source.tree.NewArrayTree;
@@ -303,6 +305,13 @@ public final class SplitForestLanguage {
                 case LESS_THAN, LESS_THAN_EQUAL, GREATER_THAN, GREATER_THAN_EQUAL -> true;
                 default -> false;
             };
+        }
+
+        @Override
+        public Void visitIdentifier(IdentifierTree tree, Void none) {
+            boolean alone = !(getCurrentPath().getParentPath().getLeaf() instanceof MemberSelectTree);
+            rule(12, !(alone && tree.getName().contentEquals("this")), at(tree) + "hands out this object");
+            return super.visitIdentifier(tree, none);
         }
 
         private boolean inConstructor() {
